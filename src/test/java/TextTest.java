@@ -11,6 +11,7 @@ public final class TextTest {
         faultsOfTokens();
         faultsOfDepth();
         wellFormed();
+        afterFaults();
         force();
         names();
         values();
@@ -174,6 +175,11 @@ public final class TextTest {
         faultOf("1 + /", 4);
         faultOf("a", 0);
         faultOf("zzzz", 0);
+        faultOf("kindz", 0);
+        faultOf("akind", 0);
+        fault(";".repeat(160), 0);
+        fault("late 0" + "+".repeat(154), 7);
+        fault("late 0;cut 0;stop 0;" + " ".repeat(139) + ";", 159);
         fault("lat 1;cut 0;stop 0;", 0);
         fault("latecut 1;cut 0;stop 0;", 0);
         fault("late 1;cut 0;stop 0;?", 20);
@@ -226,6 +232,22 @@ public final class TextTest {
             longest.append(' ');
         }
         good(longest.append(';').toString());
+    }
+
+    /** What was read ahead of a fault leaves nothing behind. */
+    private static void afterFaults() {
+        RailCargo x = new RailCargo();
+        x.cargo(1, 0);
+        x.sale(0, 1, 1, 0, 0);
+        for (int i = 0; i < 4; i++) {
+            Due.is("a long one with a fault", Due.text(x, "late 1" + "+1".repeat(70) + ";"), -247);
+        }
+        for (int text = 1; text < 6; text++) {
+            String late = "late " + text + "+1".repeat(60) + ";cut -1;stop 1;";
+            Due.is("a long one", Due.text(x, late), text);
+            x.force(text);
+            Due.is("late by it", x.owes(0, 0), text + 60);
+        }
     }
 
     private static void force() {
