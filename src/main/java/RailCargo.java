@@ -108,7 +108,7 @@ public final class RailCargo {
 
     public int pay(int sale, int coin) {
         Sale sold = saleAt(sale);
-        if (sold == null || coin < 0) {
+        if (sold == null || !isCoin(coin)) {
             return BAD;
         }
         if (coin > MOST_PAID - sold.paid) {
@@ -487,6 +487,10 @@ public final class RailCargo {
 
     private static boolean isAmount(int amount) {
         return amount >= 1 && amount <= MOST;
+    }
+
+    private static boolean isCoin(int coin) {
+        return coin >= 0 && coin <= MOST_PAID;
     }
 
     private static boolean isKind(int kind) {

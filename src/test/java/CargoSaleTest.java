@@ -128,17 +128,24 @@ public final class CargoSaleTest {
         Due.is("300", x.pay(0, 300), 300);
         Due.is("500 in all", x.pay(0, 200), 500);
         Due.is("the other sale", x.pay(1, 7), 7);
-        int[][] bad = {{2, 1}, {-1, 1}, {MAX, 1}, {MIN, 1}, {0, -1}, {0, MIN}, {2, MAX}};
+        int[][] bad = {{2, 1}, {-1, 1}, {MAX, 1}, {MIN, 1}, {0, -1}, {0, MIN}, {2, MAX}, {0, MAX},
+            {0, 1000000}, {1, 697592880}};
         for (int[] b : bad) {
             Due.is("pay " + b[0] + " " + b[1], x.pay(b[0], b[1]), -2);
         }
         Due.is("one too much", x.pay(0, 999500), -4);
-        Due.is("far too much", x.pay(0, MAX), -4);
+        Due.is("the greatest coin, too much with what was paid", x.pay(0, 999999), -4);
         Due.is("refused ones change nothing", x.told(0, 8), 500);
         Due.is("the most", x.pay(0, 999499), 999999);
         Due.is("nothing more", x.pay(0, 0), 999999);
         Due.is("one more", x.pay(0, 1), -4);
+        Due.is("no coin at all, where none has room either", x.pay(0, 1000000), -2);
         Due.is("in all", x.count(6), 1000006);
+        RailCargo y = new RailCargo();
+        y.cargo(10, 0);
+        y.sale(0, 1, 1, 1, 1);
+        Due.is("above the greatest coin", y.pay(0, 1000000), -2);
+        Due.is("the greatest coin", y.pay(0, 999999), 999999);
     }
 
     private static void told() {

@@ -84,7 +84,7 @@ final class Model {
     }
 
     int pay(int sale, int coin) {
-        if (noSale(sale) || coin < 0) return -2;
+        if (noSale(sale) || !in(coin, 0, 999999)) return -2;
         if ((long) sold.get(sale).paid + coin > 999999) return -4;
         return sold.get(sale).paid += coin;
     }

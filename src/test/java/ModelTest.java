@@ -122,7 +122,7 @@ public final class ModelTest {
                 return new long[] {x.sale(a, b, c, d, e), m.sale(a, b, c, d, e)};
             case 5: say("paper", a = saleNumber(), b = hourOrNone());
                 return new long[] {x.paper(a, b), m.paper(a, b)};
-            case 6: say("pay", a = saleNumber(), b = chance.nextInt(9) == 0 ? upTo(999999) : upTo(50));
+            case 6: say("pay", a = saleNumber(), b = chance.nextInt(9) == 0 ? upTo(1200000) : upTo(50));
                 return new long[] {x.pay(a, b), m.pay(a, b)};
             case 7: return feedAndRead();
             case 8: say("force", a = upTo(m.texts.size() + 1));
