@@ -2,17 +2,41 @@
 final class Due {
     private static int right = 0;
     private static int wrong = 0;
+    private static boolean muted = false;
 
     private Due() {
     }
 
     static void is(String what, long got, long want) {
-        if (got == want) {
+        tell(got == want, what + " answered " + got + ", due is " + want);
+    }
+
+    static void isNot(String what, long got, long refusal) {
+        tell(got != refusal, what + " answered " + got + ", which is not due");
+    }
+
+    private static void tell(boolean asDue, String otherwise) {
+        if (asDue) {
             right++;
-        } else {
-            wrong++;
-            System.out.println(what + " answered " + got + ", due is " + want);
+            return;
         }
+        wrong++;
+        if (!muted) {
+            System.out.println(otherwise);
+        }
+    }
+
+    /** From here on what is wrong is counted alone. */
+    static void mute() {
+        muted = true;
+    }
+
+    static int asked() {
+        return right + wrong;
+    }
+
+    static int wrong() {
+        return wrong;
     }
 
     /** Feeds a text by eights, as far as there is room, and answers how many bytes the tape has. */

@@ -77,20 +77,20 @@ public final class TextTest {
         Due.is("six as before", x.count(2), 6);
     }
 
-    private static void fault(String text, int place) {
+    static void fault(String text, int place) {
         Due.is("[" + text + "]", Due.text(new RailCargo(), text), -100 - place);
     }
 
     /** The fault of an E, by its own places; it stands behind "late ". */
-    private static void faultOf(String e, int place) {
+    static void faultOf(String e, int place) {
         fault("late " + e + ";cut 0;stop 0;", 5 + place);
     }
 
-    private static void good(String text) {
+    static void good(String text) {
         Due.is("[" + text + "]", Due.text(new RailCargo(), text), 1);
     }
 
-    private static void goodOf(String e) {
+    static void goodOf(String e) {
         good("late " + e + ";cut 0;stop 0;");
     }
 
@@ -273,7 +273,7 @@ public final class TextTest {
     }
 
     /** What late E comes to, by a sale of kind 3, at price 7 for 11 (due 77), hour 100, paid 20, at hour 130. */
-    private static void late(String e, int want) {
+    static void late(String e, int want) {
         RailCargo x = new RailCargo();
         x.cargo(50, 0);
         x.sale(3, 1, 11, 7, 100);
