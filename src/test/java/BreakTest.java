@@ -54,14 +54,15 @@ public final class BreakTest {
             String broken = broken(source, way[0], way[1]);
             int wrong = broken == null ? NO_PLACE : wrongOf(broken, number);
             if (wrong <= 0) {
-                String why = wrong == NO_PLACE ? "stands not just once" : wrong == NO_JAVA ? "is no Java" : "isn't seen";
+                String why = wrong == NO_PLACE ? "stands not just once"
+                        : wrong == NO_JAVA ? "is no Java" : "isn't seen";
                 missed.add(edge.place + ", [" + edge.words + "]: [" + way[0] + "] as [" + way[1] + "] " + why);
             }
         }
         return missed.stream();
     }
 
-    /** The source with other signs in the one place where these stand, however they are spaced; null if there is none. */
+    /** The source with other signs in the one place where these stand, however they are spaced; or null. */
     private static String broken(String source, String from, String to) {
         StringBuilder pattern = new StringBuilder();
         for (String piece : from.split(" ")) {
@@ -91,16 +92,26 @@ public final class BreakTest {
 
     private static Map<String, byte[]> compiled(String source) {
         JavaCompiler compiler = ToolProvider.getSystemJavaCompiler();
-        JavaFileObject file = new SimpleJavaFileObject(URI.create("string:///RailCargo.java"), JavaFileObject.Kind.SOURCE) {
-            @Override
-            public CharSequence getCharContent(boolean ignoreErrors) {
-                return source;
-            }
-        };
+        JavaFileObject file = new Source(source);
         Written written = new Written(compiler.getStandardFileManager(null, null, null));
         boolean fine = compiler.getTask(Writer.nullWriter(), written, null, List.of("-proc:none"), null,
                 List.of(file)).call();
         return fine ? written.classes() : null;
+    }
+
+    /** A source that stands in no file. */
+    private static final class Source extends SimpleJavaFileObject {
+        private final String source;
+
+        Source(String source) {
+            super(URI.create("string:///RailCargo.java"), Kind.SOURCE);
+            this.source = source;
+        }
+
+        @Override
+        public CharSequence getCharContent(boolean ignoreErrors) {
+            return source;
+        }
     }
 
     /** Keeps what the compiler writes. */
@@ -112,7 +123,8 @@ public final class BreakTest {
         }
 
         @Override
-        public JavaFileObject getJavaFileForOutput(Location where, String name, JavaFileObject.Kind kind, FileObject from) {
+        public JavaFileObject getJavaFileForOutput(Location where, String name, JavaFileObject.Kind kind,
+                FileObject from) {
             return new SimpleJavaFileObject(URI.create("bytes:///" + name + ".class"), kind) {
                 @Override
                 public OutputStream openOutputStream() {

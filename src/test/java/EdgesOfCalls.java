@@ -154,7 +154,8 @@ final class EdgesOfCalls {
             .broken("sold.paid += coin; return sold.paid;", "sold.paid += coin; return coin;"));
         all.add(new Edge("Promise 7", "9 when the THING passes, 10 when the LOSS does. -5: none such.",
                 EdgesOfCalls::told)
-            .broken("return sold == null ? NONE_SUCH : sold.tell(what);", "return sold == null ? BAD : sold.tell(what);")
+            .broken("return sold == null ? NONE_SUCH : sold.tell(what);",
+                    "return sold == null ? BAD : sold.tell(what);")
             .broken("case 10: return lossHour(); default: return NONE_SUCH;",
                     "case 10: return lossHour(); default: return BAD;")
             .broken("case 10: return lossHour(); default: return NONE_SUCH;",
@@ -221,8 +222,10 @@ final class EdgesOfCalls {
             .broken("int divisor = commonDivisor(above, goods.amount);", "int divisor = 1;")
             .broken("int divisor = commonDivisor(above, goods.amount);",
                     "int divisor = above == 0 ? 1 : commonDivisor(above, goods.amount);")
-            .broken("|| !isHour(upperOf(when)) || (part != 0 && part != 1)) {", "|| !isHour(upperOf(when)) || part < 0) {")
-            .broken("|| !isHour(upperOf(when)) || (part != 0 && part != 1)) {", "|| !isHour(upperOf(when)) || part > 1) {")
+            .broken("|| !isHour(upperOf(when)) || (part != 0 && part != 1)) {",
+                    "|| !isHour(upperOf(when)) || part < 0) {")
+            .broken("|| !isHour(upperOf(when)) || (part != 0 && part != 1)) {",
+                    "|| !isHour(upperOf(when)) || part > 1) {")
             .broken("|| !isHour(upperOf(when)) || (part != 0 && part != 1)) {", "|| (part != 0 && part != 1)) {")
             .broken("if (lost > goods.amount) { return NO; }", ""));
         all.add(new Edge("Promise 10", "(hours: 1000 times the one and the other one, not ahead of it)",
@@ -315,7 +318,8 @@ final class EdgesOfCalls {
     private static void addTexts(List<Edge> all) {
         all.add(new Edge("Promise 11", "The n lowest bytes of a number, the lowest first, come behind THE TAPE",
                 EdgesOfCalls::lowestBytes)
-            .broken("reader.put((int) (bytes >>> (8 * i)) & 255);", "reader.put((int) (bytes >>> (8 * (n - 1 - i))) & 255);")
+            .broken("reader.put((int) (bytes >>> (8 * i)) & 255);",
+                    "reader.put((int) (bytes >>> (8 * (n - 1 - i))) & 255);")
             .broken("reader.put((int) (bytes >>> (8 * i)) & 255);", "reader.put((int) bytes >> (8 * i) & 255);")
             .broken("reader.put((int) (bytes >>> (8 * i)) & 255);", "reader.put((int) (bytes >>> (8 * i)) & 127);"));
         all.add(new Edge("Promise 11", "how many it has. BAD: n is not 1 .. 8. FULL.", EdgesOfCalls::feed)
@@ -328,9 +332,11 @@ final class EdgesOfCalls {
             .broken("if (n > reader.room()) {", "if (reader.room() == 0) {"));
         all.add(new Edge("Promise 12", "THE TAPE, which is empty then (by a FAULT, too), is a TEXT: its number",
                 EdgesOfCalls::emptyThen)
-            .broken("reader.empty(); return fault == NONE", "if (fault == NONE) { reader.empty(); } return fault == NONE")
+            .broken("reader.empty(); return fault == NONE",
+                    "if (fault == NONE) { reader.empty(); } return fault == NONE")
             .broken("reader.empty(); return fault == NONE", "return fault == NONE")
-            .broken("end < size && (word", "end < TAPE_ROOM && (word"));
+            .broken("end < size && (word", "end < TAPE_ROOM && (word")
+            .broken("fault = NONE; codeCount = 0;", "fault = NONE;"));
         all.add(new Edge("Promise 12", "-100 less the place of its FAULT", EdgesOfCalls::lessThePlace)
             .broken("FAULT_BASE = -100", "FAULT_BASE = -99")
             .broken("FAULT_BASE - fault", "FAULT_BASE + fault"));
@@ -411,6 +417,14 @@ final class EdgesOfCalls {
         Due.is("all blank", x.text(), -260);
         Due.is("empty", x.count(3), 0);
         Due.is("two texts", x.count(2), 2);
+        for (int times = 0; times < 3; times++) {
+            Due.is("a long one with a fault", Due.text(x, "late 1" + "+1".repeat(70) + ";"), -247);
+        }
+        Due.is("a long one", Due.text(x, "late 7" + "+1".repeat(60) + ";cut -1;stop 1;"), 2);
+        x.force(2);
+        x.cargo(1, 0);
+        x.sale(0, 1, 1, 0, 0);
+        Due.is("nothing of theirs is left in it", x.owes(0, 0), 67);
     }
 
     private static void lessThePlace() {
@@ -489,7 +503,8 @@ final class EdgesOfCalls {
             .broken("if (bits == 0 || bits >>> saleCount != 0) {", "if (bits == 0) {")
             .broken("if (bits == 0 || bits >>> saleCount != 0) {", "if (bits == 0 || bits >> saleCount > 0) {")
             .broken("if (bits == 0 || bits >>> saleCount != 0) {", "if (bits == 0 || bits >>> saleCount > 1) {")
-            .broken("if (goods != null && sales[i].cargo != goods) {", "if (goods != null && sales[i].cargo == null) {"));
+            .broken("if (goods != null && sales[i].cargo != goods) {",
+                    "if (goods != null && sales[i].cargo == null) {"));
         all.add(new Edge("Promise 17", "NO: no HAND; BAD (as of closes()); STATE: they do not close.",
                 EdgesOfCalls::differ)
             .broken("rings.isRing(this.sales, saleCount, sales) ? differenceOf(hand, sales) : STATE;",
@@ -571,7 +586,8 @@ final class EdgesOfCalls {
                 "BAD: no such SALE, HAND, HOUR, HANDS alike; -13: it is of another KIND.", EdgesOfCalls::two)
             .broken("!isHand(otherHand) || oneHand == otherHand) {", "!isHand(otherHand)) {")
             .broken("!isHand(otherHand) || oneHand == otherHand) {", "oneHand == otherHand) {")
-            .broken("if (sold == null || !isHand(oneHand) || !isHand(otherHand)", "if (sold == null || !isHand(otherHand)")
+            .broken("if (sold == null || !isHand(oneHand) || !isHand(otherHand)",
+                    "if (sold == null || !isHand(otherHand)")
             .broken("if (sold == null || !isHand(oneHand)", "if (!isHand(oneHand)")
             .broken("if (!isUnder(sold.kind, PAPER_KIND)) { return OTHER_SORT; }", "")
             .broken("if (sold == null || !isHand(oneHand)", "if (sold != null && !isUnder(sold.kind, PAPER_KIND))"
@@ -647,7 +663,9 @@ final class EdgesOfCalls {
             .broken("if (sold == null || as < 0 || !isKind(as / 10) || !isHour(hour)) {",
                     "if (sold == null || as < 0 || !isKind(as / 10)) {")
             .broken("if (sold == null || as < 0 || !isKind(as / 10) || !isHour(hour)) {",
-                    "if (as < 0 || !isKind(as / 10) || !isHour(hour)) {"));
+                    "if (as < 0 || !isKind(as / 10) || !isHour(hour)) {")
+            .broken("sold.kind = as / 10;", "sold.kind = as / 9;")
+            .broken("sold.kind = as / 10;", "sold.kind = as / 11;"));
         all.add(new Edge("Promise 24", "TELEGRAPH (bits). BAD.", EdgesOfCalls::telegraph)
             .broken("public int telegraph(int cargo, int hour) { Cargo goods = cargoAt(cargo);"
                     + " if (goods == null || !isHour(hour)) {",
@@ -667,10 +685,28 @@ final class EdgesOfCalls {
         Due.is("as 9", x.moves(1, 9, 20), 0);
         Due.is("as 51", x.moves(0, 51, 999), -1);
         Due.is("as 59", x.moves(0, 59, 999), 0);
+        movesByKind();
         RailCargo all = Made.cargo(999);
         all.sale(2, 1, 999, 1, 0);
         Due.is("the most", all.moves(0, 1, 0), 999);
         Due.is("the least", all.moves(0, 0, 0), -999);
+    }
+
+    /** Of the first and the last hand: a sale whose loss passes at hour 999, as if it were of each kind. */
+    private static void movesByKind() {
+        RailCargo x = Made.cargo(10);
+        x.sale(0, 9, 10, 1, 999);
+        x.sale(0, 9, 10, 1, 20);
+        x.hour(0, 0, 30);
+        x.hour(0, 1, 40);
+        int[] passes = {20, 30, 40, 30, 40, 25};
+        for (int kind = 0; kind < 6; kind++) {
+            for (int hour = passes[kind] - 1; hour <= passes[kind]; hour++) {
+                int at = hour < passes[kind] ? 0 : 10;
+                Due.is("hand 0 as " + kind + " at " + hour, x.moves(1, 10 * kind, hour), hour < 20 ? 0 : 10 - at);
+                Due.is("hand 9 as " + kind + " at " + hour, x.moves(1, 10 * kind + 9, hour), hour < 20 ? 0 : at - 10);
+            }
+        }
     }
 
     private static void telegraph() {
@@ -698,7 +734,8 @@ final class EdgesOfCalls {
             .broken("rule = imageRule; return saleCount;", "rule = imageRule; hasImage = false; return saleCount;"));
         all.add(new Edge("Promise 27", "4 THE RULE, 5 SALES whose PAPER is handed on, 6 what was PAID in all. BAD.",
                 EdgesOfCalls::count)
-            .broken("case 6: return paidInAll(); default: return BAD;", "case 6: return paidInAll(); default: return 0;")
+            .broken("case 6: return paidInAll(); default: return BAD;",
+                    "case 6: return paidInAll(); default: return 0;")
             .broken("case 6: return paidInAll(); default: return BAD;",
                     "case 6: case 7: return paidInAll(); default: return BAD;")
             .broken("if (sales[i].paper != NONE) {", "if (sales[i].paper > 0) {")

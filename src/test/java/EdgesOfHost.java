@@ -171,7 +171,8 @@ final class EdgesOfHost {
             .broken("if (i < 0 || i >= row.size) {", "if (i < 0 || i >= SHEET_ROOM) {")
             .broken("if (i < 0 || i >= row.size) {", "if (i >= row.size) {")
             .broken("if (row.sort == MISSING) { return NOTHING; } if (i < 0", "if (i < 0")
-            .broken("if (row == null) { return BAD; } if (row.sort", "if (row == null) { return OUTSIDE; } if (row.sort"));
+            .broken("if (row == null) { return BAD; } if (row.sort",
+                    "if (row == null) { return OUTSIDE; } if (row.sort"));
     }
 
     private static void lowestBits() {
@@ -217,7 +218,8 @@ final class EdgesOfHost {
             .broken("System.arraycopy(from.items, i, to.items, j, n);",
                     "for (int k = n - 1; k >= 0; k--) { to.items[j + k] = from.items[i + k]; }")
             .broken("to.items, j, n); return n;", "to.items, j, n); return 1;"));
-        all.add(new Edge("Promise 30", "BAD: no such SHEET; -11; -13: they are of unlike sorts; -12 (also with n below 0).",
+        all.add(new Edge("Promise 30",
+                "BAD: no such SHEET; -11; -13: they are of unlike sorts; -12 (also with n below 0).",
                 EdgesOfHost::copyRefuses)
             .broken("return n >= 0 && i >= 0 && i <= size - n;", "return i >= 0 && i <= size - n;")
             .broken("return n >= 0 && i >= 0 && i <= size - n;", "return n >= 0 && i <= size - n;")
@@ -292,7 +294,8 @@ final class EdgesOfHost {
     }
 
     private static void addSales(List<Edge> all) {
-        all.add(new Edge("Promise 31", "from one on, five by five (as of sale()), n of them (0 .. 8)", EdgesOfHost::upToEight)
+        all.add(new Edge("Promise 31", "from one on, five by five (as of sale()), n of them (0 .. 8)",
+                EdgesOfHost::upToEight)
             .broken("SALES_AT_ONCE = 8", "SALES_AT_ONCE = 7")
             .broken("SALES_AT_ONCE = 8", "SALES_AT_ONCE = 9")
             .broken("n < 0 || n > SALES_AT_ONCE", "n < 1 || n > SALES_AT_ONCE")
@@ -304,7 +307,8 @@ final class EdgesOfHost {
             .broken("cells[at + 4]) >= 0) { came++; }", "cells[at + 4]) >= 0) { came++; } else { return came; }"));
         all.add(new Edge("Promise 31", "BAD: no such SHEET, sort, n; -13; -11; -12: what stood ahead came.",
                 EdgesOfHost::salesRefuse)
-            .broken("if (row == null || sort < 0 || sort >= SORTS ||", "if (row == null || sort < MISSING || sort >= SORTS ||")
+            .broken("if (row == null || sort < 0 || sort >= SORTS ||",
+                    "if (row == null || sort < MISSING || sort >= SORTS ||")
             .broken("if (row == null || sort < 0 || sort >= SORTS ||", "if (row == null || sort < 0 || sort > SORTS ||")
             .broken("if (row == null || sort < 0 || sort >= SORTS ||", "if (sort < 0 || sort >= SORTS ||")
             .broken("if (row.sort != sort) { return OTHER_SORT; }", "")
@@ -312,7 +316,8 @@ final class EdgesOfHost {
             .broken("if (!row.has(at, SALE_CELLS)) {", "if (!row.has(at, SALE_CELLS - 1)) {")
             .broken("if (!row.has(at, SALE_CELLS)) {", "if (!row.has(at, SALE_CELLS + 1)) {")
             .broken("if (!row.has(at, SALE_CELLS)) { return OUTSIDE;", "if (!row.has(at, SALE_CELLS)) { return came;")
-            .broken("int at = from;", "if (n > 0 && !row.has(from, n * SALE_CELLS)) { return OUTSIDE; } int at = from;"));
+            .broken("int at = from;",
+                    "if (n > 0 && !row.has(from, n * SALE_CELLS)) { return OUTSIDE; } int at = from;"));
     }
 
     /** Eight rows of five, each a sale: the k-th at price k. */

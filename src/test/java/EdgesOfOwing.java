@@ -19,7 +19,8 @@ final class EdgesOfOwing {
             .broken("MOST_PAID = 999999", "MOST_PAID = 1000000")
             .broken("return coin >= 0 &&", "return coin > 0 &&")
             .broken("return coin >= 0 &&", "return coin >= -1 &&"));
-        all.add(new Edge("Terms 2", "OWES of a SALE at an HOUR (from its HOUR on; 0 ahead of it)", EdgesOfOwing::fromItsHour)
+        all.add(new Edge("Terms 2", "OWES of a SALE at an HOUR (from its HOUR on; 0 ahead of it)",
+                EdgesOfOwing::fromItsHour)
             .broken("if (hour < sold.hour) { return 0;", "if (hour <= sold.hour) { return 0;")
             .broken("if (hour < sold.hour) { return 0;", "if (hour + 1 < sold.hour) { return 0;")
             .broken("if (hour < sold.hour) { return 0;", "if (hour < sold.hour) { return -sold.paid;"));
@@ -107,14 +108,17 @@ final class EdgesOfOwing {
     private static void addRings(List<Edge> all) {
         all.add(new Edge("Terms 2", "each HAND in them sells as often as it buys", EdgesOfOwing::asOften)
             .broken("if (sellsMore[hand] != 0) {", "if (sellsMore[hand] > 1) {")
-            .broken("return amountsAlike(bits) && allSellAsTheyBuy(bits) &&", "return amountsAlike(bits) &&"));
+            .broken("return amountsAlike(bits) && allSellAsTheyBuy(bits) &&", "return amountsAlike(bits) &&")
+            .broken("Arrays.fill(sellsMore, 0);", ""));
         all.add(new Edge("Terms 2", "AMOUNTS are alike", EdgesOfOwing::alike)
             .broken("return amountsAlike(bits) && allSellAsTheyBuy(bits) &&", "return allSellAsTheyBuy(bits) &&")
+            .broken("int amount = NONE; for (int i = 0;", "int amount = NONE; for (int i = 1;")
             .broken("&& sales[next].amount == sales[first].amount;", ";"));
         all.add(new Edge("Terms 2", "one can come from each HAND in them to each other one by them",
                 EdgesOfOwing::fromEachToEach)
             .broken("&& handsReached(bits) == handsIn(bits);", ";")
             .broken("round < HANDS;", "round < 1;")
+            .broken("private int handsIn(int bits) { int hands = 0;", "private int handsIn(int bits) { int hands = 1;")
             .broken("round < HANDS;", "round < HANDS - 3;"));
         all.add(new Edge("Terms 2", "DIFFERENCES of a HAND in a RING", EdgesOfOwing::differences)
             .broken("sum += sales[i].due();", "sum += sales[i].due() - sales[i].paid;")
@@ -126,7 +130,8 @@ final class EdgesOfOwing {
                 EdgesOfOwing::least)
             .broken("if (fewer < 0 || (fewer == 0 && bits < best)) {", "if (best == NONE) {")
             .broken("if (fewer < 0 || (fewer == 0 && bits < best)) {", "if (best == NONE || bits < best) {")
-            .broken("if (fewer < 0 || (fewer == 0 && bits < best)) {", "if (fewer < 0 || (fewer != 0 && bits < best)) {")
+            .broken("if (fewer < 0 || (fewer == 0 && bits < best)) {",
+                    "if (fewer < 0 || (fewer != 0 && bits < best)) {")
             .broken("if (fewer < 0 || (fewer == 0 && bits < best)) {", "if (fewer < 0) {")
             .broken("if (fewer < 0 || (fewer == 0 && bits < best)) {", "if (fewer <= 0) {")
             .broken("best = NONE;", "best = 0;"));
@@ -148,6 +153,9 @@ final class EdgesOfOwing {
         Due.is("twice there, twice back", ways(1, 1, 10, 10).closes(15), 1);
         Due.is("round, and once more", ways(1, 12, 20, 12).closes(15), 0);
         Due.is("a way that does not come back", ways(1, 12, 23).closes(7), 0);
+        RailCargo x = ways(1, 12, 20);
+        Due.is("not yet round", x.closes(3), 0);
+        Due.is("round, though it was asked before", x.closes(7), 1);
     }
 
     private static void alike() {
@@ -160,6 +168,12 @@ final class EdgesOfOwing {
         x.sale(0, 20, 5, 1, 1);
         Due.is("alike", x.closes(19), 1);
         Due.is("found", x.found(0), 19);
+        RailCargo first = Made.cargo(10);
+        first.sale(0, 1, 6, 1, 1);
+        first.sale(0, 12, 5, 1, 1);
+        first.sale(0, 20, 5, 1, 1);
+        Due.is("the first is more", first.closes(7), 0);
+        Due.is("the first is more", first.found(0), -1);
         RailCargo most = Made.cargo(1);
         most.sale(0, 1, 999, 1, 1);
         most.sale(5, 10, 999, 1, 999);
@@ -168,6 +182,7 @@ final class EdgesOfOwing {
 
     private static void fromEachToEach() {
         RailCargo x = ways(1, 10, 23, 32, 12, 21);
+        Due.is("there and back, hand 0 beside", x.closes(4 | 8), 1);
         Due.is("two rings that do not meet", x.closes(15), 0);
         Due.is("two rings, and a ring that joins them", x.closes(63), 1);
         Due.is("two rings that meet in a hand", x.closes(1 | 2 | 16 | 32), 1);
@@ -202,6 +217,8 @@ final class EdgesOfOwing {
         Due.is("no sales", Made.cargo(5).found(0), -1);
         Due.is("none closes", ways(1, 12, 23, 1).found(0), -1);
         Due.is("the only one", ways(1, 10).found(0), 3);
+        Due.is("the only one, by four hands", ways(1, 12, 23, 30).found(0), 15);
+        Due.is("the only one, by all hands", ways(9, 98, 87, 76, 65, 54, 43, 32, 21, 10).found(0), 1023);
         Due.is("the fewest come later", ways(1, 12, 20, 34, 43).found(0), 8 | 16);
         Due.is("the fewest come first", ways(1, 10, 23, 34, 42).found(0), 3);
         Due.is("the fewest, though more as bits", ways(1, 23, 34, 42, 10).found(0), 1 | 16);
@@ -214,7 +231,9 @@ final class EdgesOfOwing {
     private static void addFailing(List<Edge> all) {
         all.add(new Edge("Terms 2", "what the first one OWES it then (nothing below 0)", EdgesOfOwing::nothingBelow)
             .broken("sum += Math.max(0L, owedFor(sold, hour));", "sum += owedFor(sold, hour);")
-            .broken("sum += Math.max(0L, owedFor(sold, hour));", "sum += Math.max(1L, owedFor(sold, hour));"));
+            .broken("sum += Math.max(0L, owedFor(sold, hour));", "sum += Math.max(1L, owedFor(sold, hour));")
+            .broken("if (sold.buyer == failing && sold.seller == other &&", "if (sold.buyer == failing &&")
+            .broken("if (sold.buyer == failing && sold.seller == other &&", "if (sold.seller == other &&"));
         all.add(new Edge("Terms 2", "by SALES at which the THING passed by then", EdgesOfOwing::thingPassed)
             .broken("sold.seller == other && sold.thingHour() <= hour) {",
                     "sold.seller == other && sold.thingHour() < hour) {")
@@ -231,6 +250,7 @@ final class EdgesOfOwing {
                 EdgesOfOwing::notHandedOn)
             .broken("sold.paper != NONE && sold.paper <= hour;", "sold.paper != NONE && sold.paper < hour;")
             .broken("sold.paper != NONE && sold.paper <= hour;", "sold.paper != NONE;")
+            .broken("sold.paper != NONE && sold.paper <= hour;", "sold.paper != NONE && sold.paper == hour;")
             .broken("sold.paper != NONE && sold.paper <= hour;", "sold.paper <= hour;")
             .broken("ruled(STOP_PART, sold, hour) != 0;", "true;"));
     }
@@ -248,6 +268,11 @@ final class EdgesOfOwing {
         Due.is("what it gets back is not set off", x.loses(10, 0), 10);
         x.pay(1, 11);
         Due.is("nothing at all", x.loses(10, 0), 0);
+        x.sale(0, 21, 10, 3, 0);
+        x.sale(0, 2, 10, 4, 0);
+        Due.is("what it owes another one is not", x.loses(10, 0), 0);
+        Due.is("the other one's", x.loses(12, 0), 30);
+        Due.is("what another one owes is not", x.loses(20, 0), 40);
     }
 
     private static void thingPassed() {
@@ -287,6 +312,7 @@ final class EdgesOfOwing {
         x.paper(0, 30);
         Due.is("just ahead", x.stops(1, 29), 1);
         Due.is("in that hour", x.stops(1, 30), 0);
+        Due.is("the hour behind", x.stops(1, 31), 0);
         x.paper(0, 0);
         Due.is("in the first hour", x.stops(1, 0), 0);
         x.paper(0, -1);
@@ -318,11 +344,14 @@ final class EdgesOfOwing {
             .broken("sold.kind = kind; return after", "return after"));
         all.add(new Edge("Terms 2", "whose HOUR is later, and whose seller has some of it AT RISK at the LOSS",
                 EdgesOfOwing::telegraph)
-            .broken("sold.hour > hour && ledger.held[sold.seller] > 0", "sold.hour >= hour && ledger.held[sold.seller] > 0")
+            .broken("sold.hour > hour && ledger.held[sold.seller] > 0",
+                    "sold.hour >= hour && ledger.held[sold.seller] > 0")
             .broken("sold.hour > hour && ledger.held[sold.seller] > 0",
                     "sold.hour > hour + 1 && ledger.held[sold.seller] > 0")
-            .broken("sold.hour > hour && ledger.held[sold.seller] > 0", "sold.hour > hour && ledger.held[sold.seller] > 1")
-            .broken("sold.hour > hour && ledger.held[sold.seller] > 0", "sold.hour > hour && ledger.held[sold.seller] >= 0")
+            .broken("sold.hour > hour && ledger.held[sold.seller] > 0",
+                    "sold.hour > hour && ledger.held[sold.seller] > 1")
+            .broken("sold.hour > hour && ledger.held[sold.seller] > 0",
+                    "sold.hour > hour && ledger.held[sold.seller] >= 0")
             .broken("if (sold.cargo == goods && sold.hour > hour", "if (sold.hour > hour"));
     }
 
@@ -422,7 +451,8 @@ final class EdgesOfOwing {
         all.add(new Edge("Terms 2", "(CARGOES, SALES that came since stay as they are)", EdgesOfOwing::cameSince)
             .broken("i < imageCargoes;", "i < cargoCount;")
             .broken("i < imageSales;", "i < saleCount;")
-            .broken("rule = imageRule; return saleCount;", "rule = imageRule; saleCount = imageSales; return saleCount;")
+            .broken("rule = imageRule; return saleCount;",
+                    "rule = imageRule; saleCount = imageSales; return saleCount;")
             .broken("rule = imageRule; return saleCount;", "rule = imageRule; return imageSales;"));
     }
 

@@ -168,7 +168,8 @@ final class EdgesOfTerms {
                     "if (cargoCount >= CARGOES) { return FULL; } if (!isAmount(amount) || !isHand(hand)) {")
             .broken("if (n < 1 || n > 8) {", "if (n > reader.room()) { return FULL; } if (n < 1 || n > 8) {")
             .broken("if (n < 1 || n > 8) {", "if (reader.room() == 0) { return FULL; } if (n < 1 || n > 8) {")
-            .broken("if (sold == null || !isCoin(coin)) {", "if (sold != null && sold.paid >= MOST_PAID) { return FULL; }"
+            .broken("if (sold == null || !isCoin(coin)) {",
+                    "if (sold != null && sold.paid >= MOST_PAID) { return FULL; }"
                     + " if (sold == null || !isCoin(coin)) {")
             .broken("int seller = where / 10 % 10;",
                     "if (saleCount >= SALES) { return FULL; } int seller = where / 10 % 10;"));
@@ -282,7 +283,8 @@ final class EdgesOfTerms {
             }
         }
         seen.append(" sheets ").append(x.sales(0, 2, 0, 2)).append(' ').append(x.sales(1, 0, 0, 1));
-        seen.append(' ').append(x.cell(1, 4, 1)).append(' ').append(x.cell(1, 5, 1)).append(' ').append(x.cell(2, 0, 1));
+        seen.append(' ').append(x.cell(1, 4, 1)).append(' ').append(x.cell(1, 5, 1));
+        seen.append(' ').append(x.cell(2, 0, 1));
         seen.append(" texts ").append(x.feed(2, 0x3b31)).append(' ').append(x.text()).append(' ').append(x.force(1));
         seen.append(' ').append(x.owes(0, 999)).append(' ').append(x.force(2)).append(' ').append(x.owes(0, 999));
         seen.append(" back ").append(x.back());
@@ -347,13 +349,15 @@ final class EdgesOfTerms {
             .broken("goods == null || !isAmount(amount) ||", "goods == null || amount < 0 || amount > MOST ||")
             .broken("goods == null || !isAmount(amount) ||", "goods == null || amount < 2 || amount > MOST ||")
             .broken("goods == null || !isAmount(amount) ||", "goods == null || amount < 1 || amount >= MOST ||")
-            .broken("goods == null || !isAmount(amount) ||", "goods == null || amount < 1 || amount > goods.amount ||"));
+            .broken("goods == null || !isAmount(amount) ||",
+                    "goods == null || amount < 1 || amount > goods.amount ||"));
         all.add(new Edge("Terms 1", "a PRICE of one (0 .. 999)", EdgesOfTerms::price)
             .broken("price < 0 || price > MOST ||", "price < 1 || price > MOST ||")
             .broken("price < 0 || price > MOST ||", "price < -1 || price > MOST ||")
             .broken("price < 0 || price > MOST ||", "price < 0 || price >= MOST ||")
             .broken("price < 0 || price > MOST ||", "price < 0 || price > MOST + 1 ||"));
-        all.add(new Edge("Terms 1", "the HOUR in which its PAPER is handed on (NONE at first)", EdgesOfTerms::paperAtFirst)
+        all.add(new Edge("Terms 1", "the HOUR in which its PAPER is handed on (NONE at first)",
+                EdgesOfTerms::paperAtFirst)
             .broken("int paper = NONE;", "int paper = 0;")
             .broken("int paper = NONE;", "int paper = NOT_YET;"));
     }
@@ -589,7 +593,8 @@ final class EdgesOfTerms {
             .broken("if (lost > goods.amount) {", "if (lost >= goods.amount) {")
             .broken("if (lost > goods.amount) {", "if (lost > goods.amount + 1) {")
             .broken("if (lost > goods.amount) {", "if (lost < 1 || lost > goods.amount) {"));
-        all.add(new Edge("Terms 1", "the least, the greatest part AT RISK of a HAND at any HOUR from the one to the other",
+        all.add(new Edge("Terms 1",
+                "the least, the greatest part AT RISK of a HAND at any HOUR from the one to the other",
                 EdgesOfTerms::fromTheOneToTheOther)
             .broken("ledger.nextHour() <= to;", "ledger.nextHour() < to;")
             .broken("ledger.nextHour() <= to;", "ledger.nextHour() <= to + 1;")

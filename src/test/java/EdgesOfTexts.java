@@ -378,7 +378,8 @@ final class EdgesOfTexts {
             .broken("token == Token.MINUS && opens(open)", "token == Token.MINUS && opens(0)")
             .broken("token == Token.OPEN && opens(open)", "token == Token.OPEN && opens(0)")
             .broken("if (opens(open)) {", "if (opens(0)) {"));
-        all.add(new Edge("Terms 1", "(a ( till its ) , not and - till what they belong to ends)", EdgesOfTexts::opensEnd)
+        all.add(new Edge("Terms 1", "(a ( till its ) , not and - till what they belong to ends)",
+                EdgesOfTexts::opensEnd)
             .broken("private boolean opens(int open) { if (open >= OPEN_AT_ONCE) {",
                     "private int opened; private boolean opens(int open) { if (++opened > OPEN_AT_ONCE) {")
             .broken("phrase(EITHER, open + 1);", "phrase(EITHER, open);")
@@ -423,8 +424,20 @@ final class EdgesOfTexts {
             .broken("TEXTS = 6,", "TEXTS = 5,")
             .broken("TEXTS = 6,", "TEXTS = 7,")
             .broken("case 2: return textCount;", "case 2: return textCount - 1;"));
+        all.add(new Edge("Terms 1",
+                "NAMES are kind hour price amount paid due; late, cut, stop, or, and, not are KEYS.",
+                EdgesOfTexts::namesAndKeys)
+            .broken("amount paid due or and not late cut stop ", "amount paid due or and nor late cut stop ")
+            .broken("kind hour price amount", "kind hour cost amount")
+            .broken("NAMES = 6;", "NAMES = 5;")
+            .broken("NAMES = 6;", "NAMES = 7;")
+            .broken("NAMES = 6;", "NAMES = 10;"));
+        all.add(new Edge("Terms 1", "paid: what was paid for it; due: PRICE times AMOUNT", EdgesOfTexts::paidAndDue)
+            .broken("case Token.PAID: return sold.paid;", "case Token.PAID: return (short) sold.paid;")
+            .broken("return price * amount;", "return (char) (price * amount);"));
         all.add(new Edge("Terms 1", "hour: that HOUR less the SALE's", EdgesOfTexts::hourLess)
-            .broken("case Token.HOUR: return hour - sold.hour;", "case Token.HOUR: return Math.max(0, hour - sold.hour);")
+            .broken("case Token.HOUR: return hour - sold.hour;",
+                    "case Token.HOUR: return Math.max(0, hour - sold.hour);")
             .broken("case Token.HOUR: return hour - sold.hour;", "case Token.HOUR: return hour;"));
         all.add(new Edge("Terms 1", "late: what is to be paid besides (0 .. 9999, else the bound)", EdgesOfTexts::late)
             .broken("MOST_LATE = 9999", "MOST_LATE = 9998")
@@ -471,6 +484,38 @@ final class EdgesOfTexts {
         Due.is("six", x.count(2), 6);
         Due.is("the last one", x.force(5), 0);
         Due.is("no such", x.force(6), -2);
+    }
+
+    private static void namesAndKeys() {
+        String[] names = {"kind", "hour", "price", "amount", "paid", "due"};
+        int[] values = {3, 30, 7, 11, 20, 77};
+        for (int i = 0; i < names.length; i++) {
+            TextTest.late(names[i], values[i]);
+            TextTest.fault("late 0;" + names[i] + " 0;stop 0;", 7);
+            TextTest.faultOf("1 " + names[i] + " 1", 2);
+        }
+        String[] keys = {"late", "cut", "stop", "or", "and"};
+        for (String key : keys) {
+            TextTest.faultOf(key, 0);
+            TextTest.faultOf("-" + key, 1);
+            TextTest.faultOf("1 < " + key, 4);
+        }
+        TextTest.faultOf("-not 1", 1);
+        TextTest.faultOf("not", 3);
+        TextTest.late("not 0 and 1 or 0", 1);
+    }
+
+    private static void paidAndDue() {
+        RailCargo x = Made.cargo(10);
+        x.sale(3, 1, 999, 999, 0);
+        x.sale(3, 1, 1, 0, 0);
+        x.pay(0, 999999);
+        Due.text(x, "late 0;cut 0;stop paid - due = 1998 and amount * price = due;");
+        Due.text(x, "late 0;cut 0;stop paid = 0 and due = 0;");
+        x.force(1);
+        Due.is("the most", x.stops(1, 0), 1);
+        x.force(2);
+        Due.is("none", x.stops(1, 0), 2);
     }
 
     private static void hourLess() {
